@@ -9,6 +9,8 @@ public final class TimingHouse {
     private static final int ANY = -1;
     private static final int NO_ARRIVAL = -1000000;
     private static final int NO_SLACK = 1000000000;
+    /** Later than any arrival, greater than any slope. */
+    private static final int FAR = 1000000000;
 
     private static final int PORT = 0, TURNING = 2, BUFFER = 3, FLOP = 4, END = 5;
 
@@ -451,7 +453,7 @@ public final class TimingHouse {
         return race.counts[c] > 0;
     }
 
-    /** The last step is the TARGET's own and stays as it is, even if its cell is the START, too. */
+    /** The last step is the TARGET and is left out; if its cell is the START, too, that one is tried. */
     private boolean growOneOfTrial() {
         int slackBefore = race.leastSlack();
         int holdBefore = race.leastHold();
@@ -552,8 +554,9 @@ public final class TimingHouse {
             if (!isGate(from) || !isGate(to)) {
                 return false;
             }
-            Arrays.fill(behind, false);
-            behind[to] = true;
+            for (int c = 0; c < cells; c++) {
+                behind[c] = c == to;
+            }
             for (int i = 0; i < ordered; i++) {
                 int c = order[i];
                 for (int wire = c * MOST_INPUTS; wire < c * MOST_INPUTS + inputs[c]; wire++) {
@@ -943,9 +946,9 @@ public final class TimingHouse {
 
         private void clearPlace(int at) {
             lateSlopes[at] = 0;
-            earlySlopes[at] = Integer.MAX_VALUE;
+            earlySlopes[at] = FAR;
             lateArrivals[at] = 0;
-            earlyArrivals[at] = Integer.MAX_VALUE;
+            earlyArrivals[at] = FAR;
         }
 
         /** 0, or why a look-up of the arc fails. */
@@ -1076,7 +1079,9 @@ public final class TimingHouse {
         }
 
         private void spreadFrom(int start) {
-            Arrays.fill(ways, 0, net.cells * 2 * masks, 0);
+            for (int at = 0; at < net.cells * 2 * masks; at++) {
+                ways[at] = 0;
+            }
             for (int at = start * 2; at < start * 2 + 2; at++) {
                 merge(at * masks + rules.bits[start], 1, timing.lateArrivals[at], timing.earlyArrivals[at]);
             }
@@ -1127,7 +1132,7 @@ public final class TimingHouse {
         private void finish(int start, int end) {
             int from = net.sources[end * MOST_INPUTS] * 2 * masks;
             int room = slackRoom(start, end);
-            int holdRoom = holdRoom(start, end);
+            int roomForHold = holdRoom(start, end);
             for (int i = 0; i < 2 * masks; i++) {
                 int at = from + i;
                 int n = rules.periodsOf(start, end, i % masks | rules.bits[end]);
@@ -1135,7 +1140,7 @@ public final class TimingHouse {
                     int bare = room - lates[at];
                     counts[end] = Math.min(MOST_PATHS, counts[end] + ways[at]);
                     slacks[end] = Math.min(slacks[end], n * clock.length + bare);
-                    holdSlacks[end] = Math.min(holdSlacks[end], earlies[at] + holdRoom);
+                    holdSlacks[end] = Math.min(holdSlacks[end], earlies[at] + roomForHold);
                     needed = Math.max(needed, bare < 0 ? (n - 1 - bare) / n : 1);
                 }
             }

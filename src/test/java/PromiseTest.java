@@ -146,6 +146,12 @@ public final class PromiseTest {
         due("full", x.make(PORT, 0, 0), FULL);
         due("bad is named first", x.make(PORT, 0, 8), BAD);
         due("still", x.count(0), 50);
+        TimingHouse y = chain(PORT, END);
+        due("asked ahead of a new cell", y.slack(1), 1000);
+        y.make(PORT, 0, 0);
+        due("a new PORT is reached", y.about(2, 4), 1);
+        y.make(FLOP, 0, 0);
+        due("a new FLOP has arrivals", y.arrival(3, 1, 0), 10);
     }
 
     private static void wire() {
@@ -661,6 +667,16 @@ public final class PromiseTest {
             due("late at slope " + slopes[i], x.arrival(1, 0, 0), late[i]);
             due("early at slope " + slopes[i], x.arrival(1, 0, 1), early[i]);
         }
+        TimingHouse z = chain(PORT, BUFFER, BUFFER);
+        for (int part = 0; part < 2; part++) {
+            for (int row = 0; row < 2; row++) {
+                z.entry(0, part, row, 0, 0);
+            }
+        }
+        for (int what = 0; what < 4; what++) {
+            due("zeros", z.arrival(1, 0, what), 0);
+            due("zeros", z.arrival(2, 1, what), 0);
+        }
         // Rounded once, at the end: a quarter of 1 along the loads of a quarter of 1 along the slopes is 1/16.
         TimingHouse y = chain(PORT, BUFFER);
         for (int row = 0; row < 4; row++) {
@@ -1071,6 +1087,9 @@ public final class PromiseTest {
         int end = x.make(END, 0, 0);
         x.wire(0, end, 0);
         due("hold", x.worst(1), end);
+        x.period(110);
+        due("a slack of 0 is won", x.fix(), 0);
+        x.period(109);
         due("one change", x.fix(), 1);
         due("SIZE", x.about(1, 2), 1);
         due("slack", x.slack(2), 109 - 35);
@@ -1154,8 +1173,21 @@ public final class PromiseTest {
     private static void fixLimits() {
         promise = 28;
         TimingHouse x = ladder(5);
+        x.make(END, 0, 0);
+        x.wire(0, 7, 0);
+        x.extra(5, 23);
+        x.entry(0, 0, 2, 0, 500);
+        x.entry(0, 0, 2, 1, 500);
         x.period(1);
+        due("1000 paths", x.paths(6), 1000);
         due("too many paths", x.fix(), 0);
+        x.wire(-1, 1, 0);
+        x.wire(-1, 1, 1);
+        x.wire(-1, 2, 0);
+        x.wire(-1, 2, 1);
+        due("512 paths", x.paths(6), 512);
+        due("the last gate gains; once more, and it would load the one ahead as much", x.fix(), 1);
+        due("SIZE", x.about(5, 2), 1);
         // A chain of 49 gates on a FLOP, each of which gains by both SIZES.
         TimingHouse y = house(FLOP);
         for (int c = 1; c < 48; c++) {
