@@ -92,15 +92,16 @@ public final class ModelTest {
 
     private void run() {
         for (int i = 0; i < CALLS; i++) {
-            int[] call = asked.isEmpty() ? next(i) : asked.poll();
-            int got = onHouse(call);
+            int[] call;
             int due;
             try {
+                call = asked.isEmpty() ? next(i) : asked.poll();
                 due = onPlain(call);
             } catch (PlainHouse.TooMany e) {
                 left++;
                 return;
             }
+            int got = onHouse(call);
             note(call, due);
             log.add(text(call) + " = " + due);
             if (got != due) {
@@ -140,13 +141,13 @@ public final class ModelTest {
     }
 
     private int cell() {
-        return num(0, Math.max(0, house.count(0) - 1));
+        return num(0, Math.max(0, plain.count(0) - 1));
     }
 
     private int cellOfKind(int one, int other) {
         for (int i = 0; i < 20; i++) {
             int c = cell();
-            int kind = house.about(c, 0);
+            int kind = plain.about(c, 0);
             if (kind == one || kind == other || random.nextInt(30) == 0) {
                 return c;
             }
@@ -159,7 +160,7 @@ public final class ModelTest {
     }
 
     private int[] next(int i) {
-        boolean building = house.count(0) < most && (i < 3 || random.nextInt(3) == 0);
+        boolean building = plain.count(0) < most && (i < 3 || random.nextInt(3) == 0);
         if (building) {
             int[] kinds = {0, 1, 1, 2, 2, 3, 4, 4, 5};
             int kind = random.nextInt(40) == 0 ? num(0, 5) : kinds[random.nextInt(kinds.length)];
@@ -174,10 +175,10 @@ public final class ModelTest {
 
     private int[] wiring() {
         int to = cell();
-        int inputs = Math.max(1, house.about(to, 1));
+        int inputs = Math.max(1, plain.about(to, 1));
         int input = num(0, inputs - 1);
         int from = random.nextInt(12) == 0 ? -1 : cell();
-        if (random.nextInt(3) > 0 && from > to && house.about(from, 0) != 4) {
+        if (random.nextInt(3) > 0 && from > to && plain.about(from, 0) != 4) {
             from = Math.max(0, to - 1 - random.nextInt(4));
         }
         return new int[] {1, from, to, input};
@@ -198,7 +199,7 @@ public final class ModelTest {
             case 5:
                 return new int[] {4, cellOfKind(0, 0), num(0, 100000), num(0, 100000), num(0, 100000)};
             case 6: case 7:
-                return new int[] {5, cellOfKind(4, 5), num(-1, house.count(1) - 1), num(-scale, scale), num(-scale, scale)};
+                return new int[] {5, cellOfKind(4, 5), num(-1, plain.count(1) - 1), num(-scale, scale), num(-scale, scale)};
             case 8:
                 return new int[] {5, cellOfKind(5, 5), -1, num(-10000, 10000), num(-10000, 10000)};
             case 9: case 10: case 11:
@@ -214,7 +215,7 @@ public final class ModelTest {
             case 16:
                 return new int[] {10, num(1, random.nextBoolean() ? 100 : 5000)};
             case 17:
-                return new int[] {11, num(-1, house.count(1) - 1), num(0, 30), num(20, 100)};
+                return new int[] {11, num(-1, plain.count(1) - 1), num(0, 30), num(20, 100)};
             case 18:
                 return new int[] {12, random.nextInt(9) == 0 ? num(0, 4) : new int[] {0, 2, 3, 4}[random.nextInt(4)],
                     cellOrAny(), cellOrAny(), cellOrAny()};
@@ -260,7 +261,7 @@ public final class ModelTest {
 
     private int[] askPath() {
         int c = cellOfKind(4, 5);
-        int last = Math.max(0, house.paths(c) - 1);
+        int last = Math.max(0, plain.paths(c) - 1);
         int steps = random.nextInt(5);
         for (int i = 0; i < steps; i++) {
             asked.add(new int[] {23, num(0, 5), num(0, 5)});

@@ -1,94 +1,10 @@
 /** For each promise of the document: ordinary inputs, the edges that it names, and wrong inputs. */
-public final class PromiseTest {
-    private static final int BAD = -1;
-    private static final int KIND = -2;
-    private static final int FULL = -3;
-    private static final int RING = -4;
-    private static final int FREE = -5;
-    private static final int MISSING = -11;
-    private static final int ENDED = -12;
-    private static final int NO_ARRIVAL = -1000000;
-    private static final int NO_SLACK = 1000000000;
-    private static final int LEAST = Integer.MIN_VALUE;
-    private static final int MOST = Integer.MAX_VALUE;
-
-    private static final int PORT = 0;
-    private static final int GATE = 1;
-    private static final int TURNING = 2;
-    private static final int BUFFER = 3;
-    private static final int FLOP = 4;
-    private static final int END = 5;
-
-    private static int wrong = 0;
-    private static int promise = 0;
-
-    public static void main(String[] args) {
-        newObject();
-        make();
-        wire();
-        extra();
-        size();
-        port();
-        target();
-        entry();
-        tear();
-        fall();
-        corner();
-        period();
-        node();
-        except();
-        unexcept();
-        about();
-        aboutOpen();
-        takes();
-        arrival();
-        lookUps();
-        told();
-        slack();
-        hold();
-        worst();
-        paths();
-        path();
-        step();
-        common();
-        least();
-        fix();
-        fixLimits();
-        area();
-        count();
-        System.out.println(wrong == 0 ? "all answers are as due" : wrong + " answers are not as due");
-        if (wrong != 0) {
-            System.exit(1);
-        }
+public final class PromiseTest extends Sheet {
+    public static void main(String[] args) throws ReflectiveOperationException {
+        runTests(PromiseTest.class, "promise", 30);
     }
 
-    private static void due(String what, int got, int want) {
-        if (got != want) {
-            wrong++;
-            System.out.println("promise " + promise + ": " + what + " answered " + got + ", due is " + want);
-        }
-    }
-
-    /** Makes cells of these kinds, gates with two inputs, all by table 0. */
-    private static TimingHouse house(int... kinds) {
-        TimingHouse x = new TimingHouse();
-        for (int kind : kinds) {
-            x.make(kind, 2, 0);
-        }
-        return x;
-    }
-
-    /** The same, and each cell's first input takes the output of the cell before it. */
-    private static TimingHouse chain(int... kinds) {
-        TimingHouse x = house(kinds);
-        for (int c = 1; c < kinds.length; c++) {
-            x.wire(c - 1, c, 0);
-        }
-        return x;
-    }
-
-    private static void newObject() {
-        promise = 1;
+    private static void promise1NewObject() {
         TimingHouse x = new TimingHouse();
         due("count(0)", x.count(0), 0);
         due("count(1)", x.count(1), 0);
@@ -115,8 +31,7 @@ public final class PromiseTest {
         due("another object is new, too", other.entry(0, 0, 0, 0, 1), 10);
     }
 
-    private static void make() {
-        promise = 2;
+    private static void promise2Make() {
         TimingHouse x = new TimingHouse();
         due("kind below", x.make(-1, 1, 0), BAD);
         due("kind above", x.make(6, 1, 0), BAD);
@@ -154,8 +69,7 @@ public final class PromiseTest {
         due("a new FLOP has arrivals", y.arrival(3, 1, 0), 10);
     }
 
-    private static void wire() {
-        promise = 3;
+    private static void promise3Wire() {
         TimingHouse x = house(PORT, GATE, TURNING, BUFFER, FLOP, END);
         due("free", x.wire(0, 1, 0), FREE);
         due("the same", x.wire(0, 1, 0), 0);
@@ -187,8 +101,7 @@ public final class PromiseTest {
         due("and the first does not", x.wire(2, 3, 0), RING);
     }
 
-    private static void extra() {
-        promise = 4;
+    private static void promise4Extra() {
         TimingHouse x = house(PORT, GATE, END);
         due("first", x.extra(0, 1000), 0);
         due("then", x.extra(0, 0), 1000);
@@ -203,8 +116,7 @@ public final class PromiseTest {
         due("as it was", x.extra(0, 0), 0);
     }
 
-    private static void size() {
-        promise = 5;
+    private static void promise5Size() {
         TimingHouse x = house(PORT, GATE, TURNING, BUFFER, FLOP, END);
         for (int c = 1; c < 5; c++) {
             due("first", x.size(c, 2), 0);
@@ -233,8 +145,7 @@ public final class PromiseTest {
         due("early, rounded down to 12: 10 + 80 * 4 / 16", y.arrival(1, 0, 1), 30);
     }
 
-    private static void port() {
-        promise = 6;
+    private static void promise6Port() {
         TimingHouse x = chain(PORT, BUFFER, END);
         due("told", x.port(0, 3, 70, 16), 0);
         for (int edge = 0; edge < 2; edge++) {
@@ -258,8 +169,7 @@ public final class PromiseTest {
         due("as it was", x.arrival(0, 1, 1), 100000);
     }
 
-    private static void target() {
-        promise = 7;
+    private static void promise7Target() {
         TimingHouse x = house(PORT, FLOP, END, GATE);
         x.wire(0, 1, 0);
         x.wire(0, 2, 0);
@@ -288,8 +198,7 @@ public final class PromiseTest {
         due("slack", x.slack(1), 1000);
     }
 
-    private static void entry() {
-        promise = 8;
+    private static void promise8Entry() {
         TimingHouse x = new TimingHouse();
         due("first", x.entry(7, 1, 3, 2, 3000), 10);
         due("then", x.entry(7, 1, 3, 2, 0), 3000);
@@ -314,8 +223,7 @@ public final class PromiseTest {
         due("bad is named first", x.entry(0, 0, 0, 0, 3001), BAD);
     }
 
-    private static void tear() {
-        promise = 9;
+    private static void promise9Tear() {
         TimingHouse x = new TimingHouse();
         for (int column = 0; column < 3; column++) {
             x.entry(2, 1, 1, column, 70 + column);
@@ -340,8 +248,7 @@ public final class PromiseTest {
         due("nothing changed", x.tear(0, 0, 0, 3), 3);
     }
 
-    private static void fall() {
-        promise = 10;
+    private static void promise10Fall() {
         TimingHouse x = chain(PORT, TURNING, FLOP, END);
         due("first", x.fall(0, 1000), 0);
         due("then", x.fall(0, 6), 1000);
@@ -355,6 +262,9 @@ public final class PromiseTest {
         due("corners leave it", x.arrival(1, 1, 0), 21);
         due("corners leave it", x.arrival(1, 1, 1), 11);
         due("slopes do not have it", x.arrival(1, 1, 2), 10);
+        x.fall(0, 7);
+        due("asked again", x.arrival(1, 1, 0), 22);
+        x.fall(0, 6);
         due("below", x.fall(0, -1), BAD);
         due("above", x.fall(0, 1001), BAD);
         due("no table", x.fall(8, 0), BAD);
@@ -362,8 +272,7 @@ public final class PromiseTest {
         due("as it was", x.fall(0, 6), 6);
     }
 
-    private static void corner() {
-        promise = 11;
+    private static void promise11Corner() {
         TimingHouse x = chain(PORT, BUFFER, END);
         due("both", x.corner(1, 1), 0);
         due("late 10.01, up", x.arrival(1, 0, 0), 11);
@@ -383,8 +292,7 @@ public final class PromiseTest {
         due("as it was", x.arrival(1, 0, 1), 5);
     }
 
-    private static void period() {
-        promise = 12;
+    private static void promise12Period() {
         TimingHouse x = chain(PORT, END);
         due("first", x.period(1), 1000);
         due("slack", x.slack(1), 1);
@@ -395,8 +303,7 @@ public final class PromiseTest {
         due("as it was", x.count(3), 1000000);
     }
 
-    private static void node() {
-        promise = 13;
+    private static void promise13Node() {
         TimingHouse x = house(FLOP);
         due("parent above", x.node(0, 0, 0), BAD);
         due("parent below", x.node(-2, 0, 0), BAD);
@@ -417,8 +324,7 @@ public final class PromiseTest {
         due("early sum", x.arrival(0, 0, 1), 3 + 18 * 100000 + 10);
     }
 
-    private static void except() {
-        promise = 14;
+    private static void promise14Except() {
         TimingHouse x = house(PORT, PORT, GATE, GATE, END, END);
         x.wire(0, 2, 0);
         x.wire(1, 2, 1);
@@ -457,8 +363,7 @@ public final class PromiseTest {
         due("a gate is no TARGET", y.told(2), 1);
     }
 
-    private static void unexcept() {
-        promise = 15;
+    private static void promise15Unexcept() {
         TimingHouse x = chain(PORT, GATE, END);
         due("none", x.unexcept(), BAD);
         x.except(4, 0, -1, -1);
@@ -472,8 +377,7 @@ public final class PromiseTest {
         due("a new one has the number", x.except(2, 0, -1, -1), 0);
     }
 
-    private static void about() {
-        promise = 16;
+    private static void promise16About() {
         TimingHouse x = house(PORT, GATE, FLOP, END, BUFFER, END);
         due("no cell", x.about(6, 0), BAD);
         due("no cell", x.about(-1, 0), BAD);
@@ -504,8 +408,7 @@ public final class PromiseTest {
         due("not reached any more", x.about(3, 4), 0);
     }
 
-    private static void aboutOpen() {
-        promise = 16;
+    private static void promise16AboutOpen() {
         TimingHouse x = chain(PORT, BUFFER, BUFFER, FLOP, END);
         x.make(FLOP, 1, 1);
         x.tear(0, 1, 0, 0);
@@ -580,8 +483,7 @@ public final class PromiseTest {
         due("then early", x.about(1, 5), MISSING);
     }
 
-    private static void takes() {
-        promise = 17;
+    private static void promise17Takes() {
         TimingHouse x = house(PORT, GATE, END);
         due("free", x.takes(1, 0), FREE);
         x.wire(0, 1, 1);
@@ -595,8 +497,7 @@ public final class PromiseTest {
         due("END", x.takes(2, 0), FREE);
     }
 
-    private static void arrival() {
-        promise = 18;
+    private static void promise18Arrival() {
         TimingHouse x = house(PORT, PORT, GATE, END, BUFFER);
         x.wire(0, 2, 0);
         x.wire(1, 2, 1);
@@ -642,8 +543,7 @@ public final class PromiseTest {
     }
 
     /** The twelve numbers of a part are told apart; x is loads, y slopes. */
-    private static void lookUps() {
-        promise = 18;
+    private static void promise18LookUps() {
         TimingHouse x = chain(PORT, BUFFER);
         for (int row = 0; row < 4; row++) {
             for (int column = 0; column < 3; column++) {
@@ -693,8 +593,7 @@ public final class PromiseTest {
         due("49 / 16, down", y.arrival(1, 0, 1), 3);
     }
 
-    private static void told() {
-        promise = 19;
+    private static void promise19Told() {
         TimingHouse x = house(PORT, BUFFER, FLOP, END, BUFFER);
         due("no cell", x.told(5), BAD);
         due("no cell", x.told(-1), BAD);
@@ -717,8 +616,7 @@ public final class PromiseTest {
         due("a PORT does not", x.told(3), 1);
     }
 
-    private static void slack() {
-        promise = 20;
+    private static void promise20Slack() {
         TimingHouse x = chain(PORT, GATE, TURNING, END);
         due("no cell", x.slack(4), NO_SLACK);
         due("no cell", x.slack(-1), NO_SLACK);
@@ -751,8 +649,7 @@ public final class PromiseTest {
         due("the FLOP's: 1000 + 50 - 70", y.slack(3), 980);
     }
 
-    private static void hold() {
-        promise = 21;
+    private static void promise21Hold() {
         TimingHouse x = house(FLOP, FLOP, BUFFER);
         x.node(-1, 10, 30);
         x.node(0, 5, 6);
@@ -771,10 +668,19 @@ public final class PromiseTest {
         x.unexcept();
         x.tear(0, 1, 0, 0);
         due("open", x.hold(1), NO_SLACK);
+        // Two ways from one START: the shorter one has the hold slack, by whichever input it comes.
+        for (int input = 0; input < 2; input++) {
+            TimingHouse y = house(PORT, GATE, GATE, END);
+            y.wire(0, 1, 0);
+            y.wire(0, 2, input);
+            y.wire(1, 2, 1 - input);
+            y.wire(2, 3, 0);
+            due("the shorter way", y.hold(3), 10);
+            due("the longer way", y.slack(3), 980);
+        }
     }
 
-    private static void worst() {
-        promise = 22;
+    private static void promise22Worst() {
         TimingHouse x = house(PORT, BUFFER, END, END, END);
         due("none", x.worst(0), FREE);
         due("none", x.worst(1), FREE);
@@ -793,22 +699,7 @@ public final class PromiseTest {
         due("above", x.worst(2), BAD);
     }
 
-    /** Gates in a row of four inputs each, by which 2 * 4 to the power of n paths go. */
-    private static TimingHouse ladder(int gates) {
-        TimingHouse x = house(PORT);
-        for (int c = 1; c <= gates; c++) {
-            x.make(GATE, 4, 0);
-            for (int i = 0; i < 4; i++) {
-                x.wire(c - 1, c, i);
-            }
-        }
-        x.make(END, 0, 0);
-        x.wire(gates, gates + 1, 0);
-        return x;
-    }
-
-    private static void paths() {
-        promise = 23;
+    private static void promise23Paths() {
         TimingHouse x = ladder(4);
         due("2 * 256", x.paths(5), 512);
         due("no cell", x.paths(6), BAD);
@@ -885,8 +776,7 @@ public final class PromiseTest {
         due("the one shown stays", x.step(1, 1), 1);
     }
 
-    private static void path() {
-        promise = 24;
+    private static void promise24Path() {
         TimingHouse x = house(PORT, PORT, GATE, GATE, END, GATE);
         x.wire(1, 2, 0);
         x.wire(0, 2, 1);
@@ -985,8 +875,7 @@ public final class PromiseTest {
         due("slack", x.slack(47), 990);
     }
 
-    private static void step() {
-        promise = 25;
+    private static void promise25Step() {
         TimingHouse x = house(FLOP, TURNING, END);
         due("none shown", x.step(0, 0), NO_SLACK);
         due("none shown", x.step(0, 4), NO_SLACK);
@@ -1023,8 +912,7 @@ public final class PromiseTest {
         due("it shows what was shown", x.step(1, 0), 1);
     }
 
-    private static void common() {
-        promise = 26;
+    private static void promise26Common() {
         TimingHouse x = house(FLOP, FLOP, FLOP, PORT, END);
         x.node(-1, 1, 3);
         x.node(0, 10, 15);
@@ -1047,8 +935,7 @@ public final class PromiseTest {
         due("no cell", x.common(0, -1), BAD);
     }
 
-    private static void least() {
-        promise = 27;
+    private static void promise27Least() {
         TimingHouse x = chain(PORT, BUFFER, END);
         x.period(7);
         due("below", x.least(0), BAD);
@@ -1070,8 +957,7 @@ public final class PromiseTest {
         due("none told", x.least(5), 1);
     }
 
-    private static void fix() {
-        promise = 28;
+    private static void promise28Fix() {
         // Load 25 of the BUFFER: 110 by SIZE 0; 13, so 35, by SIZE 1; 9, so 15, by SIZE 2.
         TimingHouse x = chain(PORT, BUFFER, END);
         x.extra(1, 24);
@@ -1102,6 +988,31 @@ public final class PromiseTest {
         nextCellIsTried();
         targetIsNotTried();
         openIsNoGain();
+        pathZeroIsTried();
+    }
+
+    /** At -50 FALLING goes by cell 1, at -40 by cell 2, then at 0 RISING by cell 1: only a greater cell 1 helps. */
+    private static void pathZeroIsTried() {
+        TimingHouse x = house(PORT, BUFFER, BUFFER, END, END);
+        int other = x.make(GATE, 2, 1);
+        x.wire(0, 1, 0);
+        x.wire(0, 2, 0);
+        x.wire(1, other, 0);
+        x.wire(2, other, 1);
+        x.wire(other, 3, 0);
+        x.wire(0, 4, 0);
+        x.fall(0, 50);
+        x.extra(1, 23);
+        x.extra(2, 21);
+        x.entry(0, 0, 2, 0, 90);
+        x.period(100);
+        due("10 + 80 + 50 + 10", x.slack(3), -50);
+        x.path(3, 1);
+        due("path 1 goes by cell 2", x.step(1, 0), 2);
+        due("-40", x.step(0, 4), -40);
+        due("cell 1, then cell 2, once each", x.fix(), 2);
+        due("cell 1", x.about(1, 2), 1);
+        due("cell 2", x.about(2, 2), 1);
     }
 
     private static void nextCellIsTried() {
@@ -1170,8 +1081,7 @@ public final class PromiseTest {
         due("the other", x.worst(0), end);
     }
 
-    private static void fixLimits() {
-        promise = 28;
+    private static void promise28FixLimits() {
         TimingHouse x = ladder(5);
         x.make(END, 0, 0);
         x.wire(0, 7, 0);
@@ -1211,8 +1121,7 @@ public final class PromiseTest {
         due("area", y.area(), 48 * 3);
     }
 
-    private static void area() {
-        promise = 29;
+    private static void promise29Area() {
         TimingHouse x = new TimingHouse();
         x.make(PORT, 0, 0);
         x.make(END, 0, 0);
@@ -1231,8 +1140,7 @@ public final class PromiseTest {
         due("greater", x.area(), 18);
     }
 
-    private static void count() {
-        promise = 30;
+    private static void promise30Count() {
         TimingHouse x = house(PORT, END, GATE);
         x.node(-1, 0, 0);
         x.node(-1, 0, 0);
